@@ -56,7 +56,7 @@ public final class FaultMill {
     private static final int CATCH_ANY = 4;
     private static final int CATCH_NONE_BUT_FINALS = 6;
     private static final int CATCH_STATE = 7;
-    private static final int REPEATS = 8;
+    private static final int CATCH_IS_NO_TRY = 8;
 
     private final Thing[] places;
     private final int[] program;
@@ -163,7 +163,6 @@ public final class FaultMill {
         int base = at * WORDS;
         int what = program[base];
         at++;
-        fault = NO_FAULT;
         if (what >= STOP && what <= TRY) {
             control(what, program[base + 1], program[base + 2]);
         } else {
@@ -196,10 +195,12 @@ public final class FaultMill {
             case ADD:
                 acc += a;
                 break;
-            default:
+            case IF:
                 if (acc < 0) {
                     at = endOfNext(a);
                 }
+                break;
+            default:
                 break;
         }
         done++;
@@ -209,7 +210,7 @@ public final class FaultMill {
         int end = endOfNext(a);
         // A block without operations takes no FUEL, so its turns would not end by the lack of it.
         if (end > at && b > 0) {
-            blocks.open(at, end, b, REPEATS);
+            blocks.open(at, end, b, CATCH_IS_NO_TRY);
         } else {
             at = end;
             done++;
@@ -288,8 +289,8 @@ public final class FaultMill {
             case 2: return setRowCell(a, b, c);
             case 3: return rowLength(a, b);
             case 4: return makeSheet(a, b, c);
-            case 5: return sheetCell(a, b, c);
-            case 6: return setSheetCell(a, b, c);
+            case 5: return readCell(sheetRow(a, b, c), c);
+            case 6: return markCell(sheetRow(a, b, c), c);
             case 7: return takeOut(SHEET, a, b, c);
             case 8: return putIn(SHEET, INTS, a, b, c);
             case 9: return makeCase(a, b, c);
@@ -427,14 +428,12 @@ public final class FaultMill {
         return null;
     }
 
-    private long sheetCell(int a, int b, int c) {
-        Row row = sheetRow(a, b, c);
-        return row == null ? 0 : row.cells[c];
+    private static long readCell(Row row, int c) {
+        return row != null && c >= 0 && c < row.cells.length ? row.cells[c] : 0;
     }
 
-    private long setSheetCell(int a, int b, int c) {
-        Row row = sheetRow(a, b, c);
-        if (row != null) {
+    private long markCell(Row row, int c) {
+        if (row != null && c >= 0 && c < row.cells.length) {
             row.cells[c] = row.asCell(acc);
         }
         return 0;
@@ -658,7 +657,7 @@ public final class FaultMill {
         }
 
         int innerCatch() {
-            return depth > 0 ? catches[depth - 1] : REPEATS;
+            return depth > 0 ? catches[depth - 1] : CATCH_IS_NO_TRY;
         }
 
         /** Ends a turn of the innermost one; whether another one is due. */

@@ -9,6 +9,8 @@ final class Bench {
     static final String STATE = "throws.IllegalStateException";
     static final String[] BY_SORT = {ARITHMETIC, NULL, INDEX, CAST, SIZE, STORE, STATE};
 
+    private static final String LOAD_TEXT = "the program's operations are 0 to 255";
+
     private static int looks = 0;
     private static int wrong = 0;
 
@@ -34,11 +36,17 @@ final class Bench {
         return "throws." + e.getClass().getSimpleName();
     }
 
+    /** What the mill threw; the machine must not have thrown it, which gives each of its own a text. */
+    private static String thrownByMill(RuntimeException e) {
+        String text = e.getMessage();
+        return text == null || text.equals(LOAD_TEXT) ? thrown(e) : "the machine throws: " + text;
+    }
+
     static String answerOfOp(FaultMill mill, int what, int a, int b, int c) {
         try {
             return Long.toString(mill.op(what, a, b, c));
         } catch (RuntimeException e) {
-            return thrown(e);
+            return thrownByMill(e);
         }
     }
 
@@ -46,7 +54,7 @@ final class Bench {
         try {
             return Integer.toString(mill.load(k, what, a, b, c));
         } catch (RuntimeException e) {
-            return thrown(e);
+            return thrownByMill(e);
         }
     }
 
@@ -54,7 +62,7 @@ final class Bench {
         try {
             return Integer.toString(mill.run(from, fuel));
         } catch (RuntimeException e) {
-            return thrown(e);
+            return thrownByMill(e);
         }
     }
 

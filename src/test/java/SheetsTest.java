@@ -17,7 +17,7 @@ final class SheetsTest {
 
     private static void cells() {
         Bench bench = new Bench().op(0, 4, 3, 2, 3).give(-5).op(0, 6, 3, 1, 2).acc(-5).op(-5, 5, 3, 1, 2);
-        bench.op(0, 5, 3, 0, 2).op(0, 5, 3, 1, 1);
+        bench.op(0, 5, 3, 0, 2).op(0, 5, 3, 1, 1).op(0, 6, 3, 0, 0).op(-5, 5, 3, 0, 0).op(0, 5, 3, 1, 0);
         // A cell is an int.
         bench.program(41, Integer.MAX_VALUE, 0, 0, 42, Integer.MAX_VALUE, 0, 0, 42, 2, 0, 0).run(0, 0, 9)
             .acc(4294967296L).op(0, 6, 3, 1, 2).op(0, 5, 3, 1, 2);
