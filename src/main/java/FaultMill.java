@@ -601,18 +601,17 @@ public final class FaultMill {
         if (!isSpan(i, n, from.cells.length) || !isSpan(j, n, to.cells.length)) {
             return;
         }
-        // Within one shelf the spans may overlap, but whatever is in it can be in it.
-        if (from == to) {
-            System.arraycopy(from.cells, i, to.cells, j, n);
-            return;
-        }
+        // Within one shelf the spans may overlap: what is yet to come must not be written over. All that
+        // is in it can be in it, so the order tells on nothing else.
+        boolean backwards = from == to && i < j;
         for (int k = 0; k < n; k++) {
-            Thing thing = from.cells[i + k];
+            int offset = backwards ? n - 1 - k : k;
+            Thing thing = from.cells[i + offset];
             if (!to.takes(thing)) {
                 tell(ARRAY_STORE);
                 return;
             }
-            to.cells[j + k] = thing;
+            to.cells[j + offset] = thing;
         }
     }
 

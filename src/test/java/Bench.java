@@ -1,3 +1,5 @@
+import java.lang.reflect.Field;
+
 /** One mill under test: each call is made and its answer held against the one that is due. */
 final class Bench {
     static final String ARITHMETIC = "throws.ArithmeticException";
@@ -13,6 +15,7 @@ final class Bench {
 
     private static int looks = 0;
     private static int wrong = 0;
+    private static String about = "";
 
     private final FaultMill mill = new FaultMill();
 
@@ -20,8 +23,17 @@ final class Bench {
         looks++;
         if (!got.equals(want)) {
             wrong++;
-            System.out.println(call + " answered " + got + ", due is " + want);
+            System.out.println(about + call + " answered " + got + ", due is " + want);
         }
+    }
+
+    /** What the looks from here on are about: it stands before each wrong answer. */
+    static void about(String words) {
+        about = words.isEmpty() ? "" : "\"" + words + "\": ";
+    }
+
+    static int looks() {
+        return looks;
     }
 
     /** Ends the test: exit code 1 if an answer was wrong, or if nothing was looked at. */
@@ -75,6 +87,11 @@ final class Bench {
         return this;
     }
 
+    /** The same for an operation's number, a, b and c in one row. */
+    Bench op(String want, int[] call) {
+        return op(want, call[0], call[1], call[2], call[3]);
+    }
+
     Bench load(String want, int k, int what, int a, int b, int c) {
         due("load(" + k + ", " + what + ", ..)", answerOfLoad(mill, k, what, a, b, c), want);
         return this;
@@ -112,6 +129,18 @@ final class Bench {
         }
         mill.load(k, 40, 0, 0, 0);
         return this;
+    }
+
+    /** Gives ACC any long: by programs, 512 calls come no further than 2^48. */
+    Bench giveLong(long value) {
+        try {
+            Field field = FaultMill.class.getDeclaredField("acc");
+            field.setAccessible(true);
+            field.setLong(mill, value);
+        } catch (ReflectiveOperationException e) {
+            throw new AssertionError(e);
+        }
+        return acc(value);
     }
 
     /** Gives ACC an int, by a program. */
