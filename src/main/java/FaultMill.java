@@ -477,20 +477,19 @@ public final class FaultMill {
 
     // ---- Boxes, drums and letters ----
 
+    // The box is made here, not in a method of its own: a BALL's constructors are four calls deep.
     private long makeBox(int a, int b) {
-        if (mayMake() && isPlace(a)) {
-            putNew(a, newBox(b & 3, (int) acc));
+        if (!mayMake() || !isPlace(a)) {
+            return 0;
+        }
+        int value = (int) acc;
+        switch (b & 3) {
+            case 0: putNew(a, new Stone(value)); break;
+            case 1: putNew(a, new Disc(value)); break;
+            case 2: putNew(a, new Ball(value)); break;
+            default: putNew(a, new Drum(value)); break;
         }
         return 0;
-    }
-
-    private static Thing newBox(int choice, int value) {
-        switch (choice) {
-            case 0: return new Stone(value);
-            case 1: return new Disc(value);
-            case 2: return new Ball(value);
-            default: return new Drum(value);
-        }
     }
 
     private long makeLetter(int a, int b) {
